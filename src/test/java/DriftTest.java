@@ -73,7 +73,7 @@ public final class DriftTest {
     private static void lastDay() {
         // A hundredth a day: above tolerance t first on day 100 t + 100.
         CHECKS.due("on day 9900", drifted(98, 0, 100, 1, 0).driftsOut(0), 9900);
-        CHECKS.due("9901 at the tolerance and back", drifted(98, 0, 100, -1, 0).driftsOut(0), 9801);
+        CHECKS.due("downwards it is rounded away from the tolerance", drifted(98, 0, 100, -1, 0).driftsOut(0), 9801);
         CHECKS.due("no longer within 9999", drifted(99, 0, 100, 1, 0).driftsOut(0), Calibratory.NONE);
         // 99 days and a whole 101 of them are 9999.
         CHECKS.due("on day 9999", drifted(100, 0, 99, 1, 0).driftsOut(0), 9999);
