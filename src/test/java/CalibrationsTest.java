@@ -98,6 +98,14 @@ public final class CalibrationsTest {
         CHECKS.due("and by the log", x.calledBackByLog(), 200);
     }
 
+    private static void asManyAsThereAreCalls() {
+        Calibratory x = chainOf(1, 10, 999);
+        for (int n = 0; n < 508; n++) x.calibrate(0, 11, 0);
+        CHECKS.due("failures", x.failures(0), 507);
+        x.measure(0);
+        CHECKS.due("the last call that is promised", x.calibrate(0, 11, 0), 1);
+    }
+
     private static void measureNeedsTrust() {
         Calibratory x = chainOf(2, 10, 5);
         x.calibrate(0, 0, 0);
@@ -124,6 +132,7 @@ public final class CalibrationsTest {
         intervals();
         failureRecalls();
         twoHundred();
+        asManyAsThereAreCalls();
         measureNeedsTrust();
         CHECKS.end();
     }

@@ -114,6 +114,7 @@ public final class RecallsTest {
         CHECKS.due("0 is not in trust over it", x.distrusted(0), 2);
         x.refer(0, -1);
         x.measure(0);
+        dueRecalled("a failure calls back nothing that comes behind it", x, "x.");
         CHECKS.due("over the suspect 2 back to 0", x.atStake(1), 1);
         CHECKS.due("1 fails", x.calibrate(1, 11, 0), 1);
         dueRecalled("over the suspect 2", x, "xx");
