@@ -198,6 +198,17 @@ public final class CalibrationsEdgesTest {
         checks.due("no longer suspect", x.isSuspect(1), false);
     }
 
+    @Says(promise = 7, value = "Throws `IllegalStateException` if it has a reference that is not trusted")
+    static void theReferenceIsAskedAheadOfTheFailure(Checks checks) {
+        Calibratory x = Edges.calibrated(2);
+        x.measure(1);
+        x.refer(1, NONE);
+        x.refer(0, 1);
+        checks.due("a failure that makes its own reference suspect", x.calibrate(0, 11, 0), 1);
+        checks.due("the reference", x.isSuspect(1), true);
+        Edges.dueRefused(checks, "the next calibration", Edges.STATE, x, () -> x.calibrate(0, 0, 0));
+    }
+
     @Says(promise = 7, value = "throws IndexOutOfBoundsException, IllegalArgumentException, IllegalStateException")
     static void calibrateThrowsTheFirstNamed(Checks checks) {
         Calibratory x = Edges.chained(2);

@@ -245,6 +245,16 @@ public final class DriftEdgesTest {
         checks.due("calibrated", x.driftsOut(0), 0);
     }
 
+    @Says(promise = 17, value = "or it is not calibrated.")
+    static void driftOfASuspectOne(Checks checks) {
+        Calibratory x = Edges.calibrated(2);
+        x.calibrate(1, 0, 11);
+        x.calibrate(0, 11, 0);
+        x.pass(999);
+        checks.due("suspect", x.isSuspect(1), true);
+        checks.due("but calibrated", x.driftsOut(1), 0);
+    }
+
     @Says(promise = 17, value = "Throws `IndexOutOfBoundsException` if there is no such instrument")
     static void noSuchDrift(Checks checks) {
         Edges.dueNoSuch(checks, (x, n) -> x.driftsOut(n));

@@ -295,6 +295,7 @@ public final class InstrumentsEdgesTest {
         checks.due("beside it over the same standard", x.refer(1, 2), 0);
         checks.due("over both", x.chain(1), 3);
         checks.dueThrow("not the other way as well", Edges.STATE, () -> x.refer(2, 1));
+        if (!checks.holds()) return; // a ring of references has no end
         x.refer(1, 0);
         checks.due("once it is away", x.refer(2, 1), 0);
     }

@@ -75,6 +75,7 @@ public final class InstrumentsTest {
         CHECKS.dueThrow("no such reference", BOUNDS, () -> x.refer(0, 3));
         CHECKS.dueThrow("reference -2", BOUNDS, () -> x.refer(0, -2));
         CHECKS.dueThrow("both are none there", BOUNDS, () -> x.refer(5, 5));
+        if (!CHECKS.holds()) return; // a ring of references has no end
         CHECKS.due("what threw changed nothing", x.chain(0) * 100 + x.chain(1) * 10 + x.chain(2), 123);
         CHECKS.due("a standard that stays one", x.refer(0, -1), -1);
         CHECKS.due("the same reference again", x.refer(2, 1), 1);

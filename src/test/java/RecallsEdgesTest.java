@@ -12,7 +12,8 @@ public final class RecallsEdgesTest {
 
     private static String marks(Calibratory x) {
         StringBuilder text = new StringBuilder();
-        for (int m = 0; m < x.measurements(); m++) text.append(x.isCalledBack(m) ? 'x' : '.');
+        int measurements = x.measurements();
+        for (int m = 0; m < measurements; m++) text.append(x.isCalledBack(m) ? 'x' : '.');
         return text.toString();
     }
 
@@ -193,6 +194,33 @@ public final class RecallsEdgesTest {
     }
 
     @Says(promise = 23, value = "found by going through all that was ever done, from the beginning.")
+    static void theLogKnowsWhatWasCalibratedInBetween(Checks checks) {
+        Calibratory x = Edges.calibrated(3);
+        x.measure(2);
+        x.measure(1);
+        x.calibrate(1, 0, 0);
+        x.calibrate(0, 11, 0);
+        checks.due("nothing since the last of 1", x.calledBackByLog(), 0);
+        checks.due("the same", x.calledBack(), 0);
+        Calibratory y = Edges.calibrated(2);
+        y.measure(1);
+        y.calibrate(0, 11, 0);
+        y.calibrate(1, 0, 0);
+        checks.due("calibrated behind the failure, which stays", y.calledBackByLog(), 1);
+    }
+
+    @Says(promise = 23, value = "found by going through all that was ever done, from the beginning.")
+    static void theLogOverAChainThatWasTurned(Checks checks) {
+        Calibratory x = Edges.turned();
+        checks.due("not what came behind the failure", x.calledBackByLog(), 1);
+        checks.due("the same", x.calledBack(), 1);
+        checks.due("each", marks(x), "x.");
+        x.calibrate(1, 11, 0);
+        checks.due("over the suspect 2 back to 0", x.calledBackByLog(), 2);
+        checks.due("the same then", x.calledBack(), 2);
+    }
+
+    @Says(promise = 23, value = "found by going through all that was ever done, from the beginning.")
     static void theLogLeavesOutWhatWasRefused(Checks checks) {
         Calibratory x = Edges.calibrated(2);
         x.measure(1);
@@ -254,6 +282,15 @@ public final class RecallsEdgesTest {
         y.calibrate(0, 11, 0);
         checks.due("a suspect reference", y.isSuspect(1), true);
         checks.due("which 2 was not calibrated with since", y.atStake(2), 1);
+    }
+
+    @Says(promise = 24, value = "if an instrument was calibrated now and found out of tolerance")
+    static void atStakeOverASuspectOne(Checks checks) {
+        Calibratory x = Edges.turned();
+        checks.due("2 is suspect", x.isSuspect(2), true);
+        checks.due("and 0 was calibrated with it", x.atStake(2), 1);
+        checks.due("over it from 1", x.atStake(1), 1);
+        checks.due("0 by itself", x.atStake(0), 1);
     }
 
     @Says(promise = 24, value = "`instrument`: its number")

@@ -85,6 +85,7 @@ public final class TermsEdgesTest {
             int over = n;
             checks.dueThrow("0 over " + over + " others", Edges.STATE, () -> x.refer(0, over));
         }
+        if (!checks.holds()) return; // a ring of references has no end
         for (int n = 0; n < 12; n++) checks.due("chain of " + n, x.chain(n), n + 1);
     }
 
@@ -293,6 +294,14 @@ public final class TermsEdgesTest {
         checks.due("2 was calibrated with 1 ahead of 1's last", x.calibrate(0, 11, 0), 0);
         checks.due("1", x.isSuspect(1), true);
         checks.due("2", x.isSuspect(2), false);
+    }
+
+    @Says(promise = 0, value = "the instruments calibrated with them since then become suspect, and so on.")
+    static void overOneThatIsSuspectAlready(Checks checks) {
+        Calibratory x = Edges.turned();
+        checks.due("1 fails: over 2, which is suspect, back to 0", x.calibrate(1, 11, 0), 1);
+        checks.due("0 was calibrated with 2", x.isSuspect(0), true);
+        checks.due("1 is calibrated", x.isSuspect(1), false);
     }
 
     @Says(promise = 0, value = "The interval becomes longer by a quarter of it, but not longer than 999, if twice what was found, without its sign, is not above the tolerance")
